@@ -224,7 +224,6 @@ public final class Creditfabric {
         senders.clear();
         paused.fill(0);
         turns.fill(0);
-        chosenCount = 0;
         now = 0;
     }
 
