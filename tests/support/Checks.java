@@ -7,8 +7,14 @@ final class Checks {
 
     private static int made = 0;
     private static int wrong = 0;
+    private static String sentence = "";
 
     private Checks() {
+    }
+
+    /** The sentence of the document that the checks from here on are about. */
+    static void sentence(String words) {
+        sentence = words;
     }
 
     static void due(String what, long want, long got) {
@@ -34,11 +40,23 @@ final class Checks {
         tell(want.getName().equals(got), what + " threw " + got + ", due is " + want.getName());
     }
 
+    static void index(String what, Call call) {
+        throwing(what, IndexOutOfBoundsException.class, call);
+    }
+
+    static void argument(String what, Call call) {
+        throwing(what, IllegalArgumentException.class, call);
+    }
+
+    static void state(String what, Call call) {
+        throwing(what, IllegalStateException.class, call);
+    }
+
     static void tell(boolean isRight, String fault) {
         made++;
         if (!isRight) {
             wrong++;
-            System.out.println(fault);
+            System.out.println(sentence.isEmpty() ? fault : fault + " [" + sentence + "]");
         }
     }
 
