@@ -14,6 +14,7 @@ public final class RangesTest {
         columnsRowsRoomAndDelay();
         howManySwitches();
         withoutPacketsAtTickZero();
+        nothingIsLeftOfTheGridBefore();
         numbersOfSwitches();
         linksToNeighbours();
         linksLeadToNeighbours();
@@ -131,6 +132,33 @@ public final class RangesTest {
         for (int its = 0; its < 16; its++) {
             Checks.due("no pause of " + its, false, x.pause(its, false));
         }
+    }
+
+    /** Before, packet 3 was marked and went out, its credit is on its way back, another one is lost, a gap is 2. */
+    private static void nothingIsLeftOfTheGridBefore() {
+        Checks.sentence("Begins a grid anew (what was under way comes no more)");
+        Creditfabric x = Grids.grid(2, 2, 3, 3);
+        x.pause(3, true);
+        Grids.sendInARow(x, 3, 1, 3, 0);
+        x.send(0, 1, 1, 0);
+        x.run(2);
+        x.lose(2, 0, 0);
+        x.send(0, 1, 1, 0);
+        Checks.due("before: marked", true, x.isMarked(3));
+        Checks.due("before: gap", 2, x.gap(0));
+        Checks.due("before: out", 1, x.arrived());
+        Checks.due("before: its credit is on its way", 2, x.credits(0, 0, 1));
+        x.begin(2, 2, 3, 3);
+        Checks.due("none out", 0, x.arrived());
+        for (int its = 0; its < 4; its++) {
+            Checks.due("it has not sent any", its, x.send(its, its ^ 1, 0, 0));
+            Checks.due("hops", 0, x.hops(its));
+            Checks.due("mark", false, x.isMarked(its));
+        }
+        Checks.due("all go out, none is paused", 4, x.run(2));
+        x.run(10);
+        Checks.due("no credit too many", 3, x.credits(0, 0, 1));
+        Checks.due("none is lost", 0, x.recover());
     }
 
     private static void numbersOfSwitches() {

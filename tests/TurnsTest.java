@@ -12,6 +12,7 @@ public final class TurnsTest {
         for (int place : EASTWARD) {
             behindTheChosenOneEastward(place);
             roundTheWholeRing(place);
+            zeroInANewGrid(place);
         }
         twiceRoundTheRing();
         for (int place = 0; place < 8; place++) {
@@ -19,10 +20,15 @@ public final class TurnsTest {
                 behindTheChosenOneOut(place, lane);
             }
         }
+        for (int its = 0; its < 16; its++) {
+            turnsOfEachLink(its);
+            turnsOfEachWayOut(its);
+        }
         aTickWithoutAChoice();
         whatIsSkippedComesLater();
         atMostOneForAnOutput();
         fiveOutputsInATick();
+        manyInATick();
         onlyTheFirstOfABuffer();
         notTwoLinksInATick();
         noneMovesUpInTheSameTick();
@@ -160,6 +166,63 @@ public final class TurnsTest {
         }
     }
 
+    private static void zeroInANewGrid(int place) {
+        Checks.sentence("its next buffer, 0 at first (in a grid begun anew, too)");
+        Creditfabric x = Grids.grid(3, 3, 1, 0);
+        sendBy(x, place, 5);
+        x.run(1);
+        if (place < 8) {
+            sendBy(x, place, MIDDLE);
+        }
+        x.run(10);
+        x.begin(3, 3, 1, 0);
+        int[] packets = loadEastward(x, 1);
+        x.run(1);
+        Checks.due("place 0 before that behind " + place, 5, x.placeOf(packets[0]));
+    }
+
+    /** In each direction a packet of lane 0 goes alone; of the next two that of lane 1 is then the first. */
+    private static void turnsOfEachLink(int its) {
+        Checks.sentence("beginning with its next buffer .. each output (of each switch)");
+        for (int direction = 0; direction < 4; direction++) {
+            int goal = Grids.behind(4, 4, its, direction);
+            if (goal != Grids.NONE) {
+                Creditfabric x = Grids.grid(4, 4, 1, 0);
+                x.send(its, goal, 0, 0);
+                x.run(3);
+                x.pause(goal, true);
+                int later = x.send(its, goal, 0, 0);
+                x.run(1);
+                int sooner = x.send(its, goal, 1, 0);
+                x.pause(goal, false);
+                x.run(1);
+                Checks.due("behind the chosen one at " + its, goal, x.placeOf(sooner));
+                Checks.due("the chosen one comes last at " + its, its, x.placeOf(later));
+            }
+        }
+    }
+
+    /** From the first two neighbours in the ring: when one of them was taken alone, the other one is the next. */
+    private static void turnsOfEachWayOut(int its) {
+        Checks.sentence("beginning with its next buffer .. each output (4 of each switch)");
+        int[] sources = new int[2];
+        int found = 0;
+        for (int input = 0; input < 4 && found < 2; input++) {
+            if (Grids.ahead(4, 4, its, input) != Grids.NONE) {
+                sources[found] = Grids.ahead(4, 4, its, input);
+                found++;
+            }
+        }
+        Creditfabric x = Grids.grid(4, 4, 1, 0);
+        x.send(sources[0], its, 0, 0);
+        x.run(3);
+        int later = x.send(sources[0], its, 0, 0);
+        int sooner = x.send(sources[1], its, 0, 0);
+        x.run(2);
+        Checks.due("behind the chosen one at " + its, -1, x.placeOf(sooner));
+        Checks.due("the chosen one comes last at " + its, its, x.placeOf(later));
+    }
+
     private static void aTickWithoutAChoice() {
         Checks.sentence("each output takes the first one .. its next buffer is then the one behind that (none taken: "
             + "it stays)");
@@ -231,6 +294,32 @@ public final class TurnsTest {
         Checks.due("south", 7, x.placeOf(south));
         Checks.due("west", 3, x.placeOf(west));
         Checks.due("north", 1, x.placeOf(north));
+    }
+
+    /** From each of 16 switches a packet goes in each lane, by different links; in the next tick all go out. */
+    private static void manyInATick() {
+        Checks.sentence("All packets that are chosen go at once (however many)");
+        Creditfabric x = Grids.grid(4, 4, 1, 0);
+        pauseAll(x, true);
+        for (int lane = 0; lane < 2; lane++) {
+            for (int its = 0; its < 16; its++) {
+                x.send(its, lane == 0 ? its ^ 1 : its ^ 4, lane, 0);
+            }
+            x.run(1);
+        }
+        pauseAll(x, false);
+        x.run(1);
+        for (int packet = 0; packet < 32; packet++) {
+            Checks.due("one link: " + packet, 1, x.hops(packet));
+        }
+        Checks.due("one out at each switch", 16, x.run(1));
+        Checks.due("then the others", 16, x.run(1));
+    }
+
+    private static void pauseAll(Creditfabric x, boolean isPaused) {
+        for (int its = 0; its < 16; its++) {
+            x.pause(its, isPaused);
+        }
     }
 
     private static void onlyTheFirstOfABuffer() {
