@@ -49,7 +49,9 @@ public final class LanguageTest {
     public static void main(String[] args) throws Exception {
         theFace();
         theClassesInside();
-        theText(Files.readString(Path.of(System.getProperty("creditfabric.source"))));
+        String text = Files.readString(Path.of("src/main/java/Creditfabric.java"));
+        theText(text);
+        theHeadings(text);
         Checks.finish();
     }
 
@@ -113,6 +115,35 @@ public final class LanguageTest {
             }
         }
         Checks.tell(count <= MOST_FIELDS, "too many fields in " + c.getName() + ": " + count);
+    }
+
+    private static void theHeadings(String text) {
+        Checks.sentence("Ahead of the calls begin, send, run, pause, lose, recover the interface says: ---- what is "
+            + "done.");
+        theHeading(text, "what is done", "begin send run pause lose recover");
+        Checks.sentence("Ahead of the calls tick, packets, arrived, credits, inBuffer, gap the interface says: ---- what "
+            + "is asked: the grid.");
+        theHeading(text, "what is asked: the grid", "tick packets arrived credits inBuffer gap");
+        Checks.sentence("Ahead of the calls placeOf, hops, isMarked, wants the interface says: ---- what is asked: "
+            + "packets.");
+        theHeading(text, "what is asked: packets", "placeOf hops isMarked wants");
+        Checks.sentence("Ahead of the calls circle, mayCircle the interface says: ---- what is asked: circles.");
+        theHeading(text, "what is asked: circles", "circle mayCircle");
+    }
+
+    /** Between this heading and the next one stand these calls of the face and no others. */
+    private static void theHeading(String text, String heading, String calls) {
+        String head = "\n    // ---- " + heading + "\n";
+        int start = text.indexOf(head);
+        Checks.tell(start >= 0, "there is no heading: " + heading);
+        String part = start < 0 ? "" : text.substring(start + head.length());
+        int end = part.indexOf("\n    // ----");
+        Matcher found = Pattern.compile("\n    public \\w+ (\\w+)\\(").matcher(end < 0 ? part : part.substring(0, end));
+        StringBuilder got = new StringBuilder();
+        while (found.find()) {
+            got.append(got.length() == 0 ? "" : " ").append(found.group(1));
+        }
+        Checks.due("the calls behind " + heading, calls, got.toString());
     }
 
     private static void theText(String text) {
