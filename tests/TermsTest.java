@@ -309,7 +309,7 @@ public final class TermsTest {
         Checks.due("number 79 went out", -1, x.placeOf(79));
     }
 
-    /** Each place of the way, the lane of the buffer there, and in the end whose gap changes tell all that it has. */
+    /** By mode 0 and mode 1 in turn, from each corner to the opposite one. */
     private static void waysAndModes() {
         Checks.sentence("A packet has a source, a goal, a lane that it keeps, and a mode: by mode 0 it goes along its "
             + "row first, until it is in the column of its goal, then along the column; by mode 1 along the column "
